@@ -347,14 +347,10 @@ public final class GrainHost {
             Request request = requests.rows[i];
             if (request.grain == grain && request.phase == Request.WAITS
                     && requests.mayBegin(request)) {
-                makeReady(request);
+                request.phase = Request.READY;
+                queue.add(request.number);
             }
         }
-    }
-
-    private void makeReady(Request request) {
-        request.phase = Request.READY;
-        queue.add(request.number);
     }
 
     private void arrive(Grain grain) {
@@ -421,7 +417,7 @@ public final class GrainHost {
             case SAVE:
                 return store(grain) ? GOES_ON : BROKEN;
             case YIELD:
-                makeReady(request);
+                queue.add(request.number);
                 return PAUSED;
             case FAIL:
                 return a;
@@ -505,7 +501,8 @@ public final class GrainHost {
         } else if (!request.catches(code)) {
             return false;
         }
-        makeReady(request);
+        request.phase = Request.READY;
+        queue.add(request.number);
         return true;
     }
 
@@ -585,20 +582,19 @@ public final class GrainHost {
             Request request = byNumber[i];
             if (request.phase == Request.AWAITS) {
                 request.awaitTicks++;
-                if (isLate(request.awaitTicks)) {
-                    endAwait(request);
+                if (isLate(request.awaitTicks) && !goOnLate(request)) {
+                    end(request, LATE, 0);
                 }
             }
         }
     }
 
-    private void endAwait(Request request) {
+    /** The called one goes on too, and must not come back to this one, whose call is over. */
+    private boolean goOnLate(Request request) {
         if (request.awaited != null) {
             request.awaited.caller = null;
         }
-        if (!goOn(request, LATE, 0)) {
-            end(request, LATE, 0);
-        }
+        return goOn(request, LATE, 0);
     }
 
     private void endLateOutsides() {
@@ -740,14 +736,9 @@ public final class GrainHost {
             awaitNothing();
         }
 
-        private boolean isBegun() {
-            return phase == READY || phase == AWAITS;
-        }
-
         private void await(Request made) {
             phase = AWAITS;
             awaited = made;
-            awaitTicks = 0;
         }
 
         private void awaitNothing() {
@@ -766,7 +757,10 @@ public final class GrainHost {
         }
     }
 
-    /** The requests that are not over, by numbers; the rows behind them are free. */
+    /**
+     * The requests that are not over, by numbers; the rows behind them are free. As none of them is
+     * over, those that do not wait are begun.
+     */
     private static final class Requests {
         private final Request[] rows = new Request[MOST_REQUESTS];
         private int size;
@@ -824,7 +818,7 @@ public final class GrainHost {
         private int begunAt(Grain grain) {
             int begun = 0;
             for (int i = 0; i < size; i++) {
-                if (rows[i].grain == grain && rows[i].isBegun()) {
+                if (rows[i].grain == grain && rows[i].phase != Request.WAITS) {
                     begun++;
                 }
             }
@@ -857,8 +851,8 @@ public final class GrainHost {
             }
             for (int i = 0; i < size; i++) {
                 Request other = rows[i];
-                boolean begunThere = other.grain == request.grain && other.isBegun();
-                if (begunThere && !(method.reading && other.method.reading)) {
+                boolean isBegunThere = other.grain == request.grain && other.phase != Request.WAITS;
+                if (isBegunThere && !(method.reading && other.method.reading)) {
                     return false;
                 }
             }

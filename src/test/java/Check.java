@@ -15,9 +15,10 @@ final class Check {
 
     /** Runs the call and finds that it answers what is due and changes nothing that can be asked. */
     void refused(GrainHost x, String what, java.util.function.LongSupplier call, long want) {
-        long[] before = Snapshot.of(x);
+        Face face = new RealHost(x);
+        long[] before = Snapshot.of(face);
         due(what, call.getAsLong(), want);
-        due(what + " changed, at place", Snapshot.firstOther(before, Snapshot.of(x)), -1);
+        due(what + " changed, at place", Snapshot.firstOther(before, Snapshot.of(face)), -1);
     }
 
     void finish() {

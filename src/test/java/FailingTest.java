@@ -3,6 +3,8 @@ public final class FailingTest {
     public static void main(String[] args) {
         Check check = new Check();
         caughtAndNot(check);
+        aCallThatIsTheLastStep(check);
+        rowsAreUsedAgain(check);
         failsThroughCallers(check);
         brokenComing(check);
         crowd(check);
@@ -41,6 +43,52 @@ public final class FailingTest {
         check.due("no step behind the call", x.ask(3, 1), 42);
     }
 
+    private static void aCallThatIsTheLastStep(Check check) {
+        GrainHost x = new GrainHost();
+        for (int i = 0; i < 7; i++) {
+            x.step(0, 0, Op.ADD, 1, 0);
+        }
+        x.step(0, 0, Op.CALL, 8, 0);
+        x.step(1, 0, Op.FAIL, 42, 0);
+        x.call(0, 0, 0);
+        x.run(40);
+        check.due("the eighth step", x.ask(0, 1), 42);
+        x.method(0, 0, false, false);
+        Op.steps(x, 0, 0, Op.CALL, 8, 0, Op.CATCH, 0, 0);
+        x.method(0, 0, false, false);
+        Op.steps(x, 0, 0, Op.CALL, 8, 0);
+        x.call(0, 0, 0);
+        x.run(40);
+        check.due("a catch that is there no more", x.ask(1, 1), 42);
+    }
+
+    /** The second call ends while a request awaits in the row of the one that called before. */
+    private static void rowsAreUsedAgain(Check check) {
+        GrainHost x = new GrainHost();
+        Op.steps(x, 0, 0, Op.CALL, 8, 0);
+        Op.steps(x, 0, 1, Op.CALL, 16, 0);
+        Op.steps(x, 2, 0, Op.YIELD, 0, 0);
+        x.call(0, 0, 0);
+        x.run(40);
+        x.call(0, 1, 0);
+        x.call(8, 0, 0);
+        x.run(2);
+        check.due("done", x.ask(2, 0), 1);
+        check.due("the other one awaits still", x.request(0, 1), 2);
+        x.run(40);
+        check.due("and comes to its end", x.ask(1, 0), 1);
+        GrainHost y = new GrainHost();
+        y.step(0, 0, Op.TELL, 8, 0);
+        y.call(9, 0, 0);
+        y.run(40);
+        y.forget();
+        y.call(0, 0, 0);
+        y.call(1, 1, 0);
+        y.run(40);
+        check.due("no request tells another one's call", y.ask(1, 1), 0);
+        check.due("all over", y.count(2), 0);
+    }
+
     private static void failsThroughCallers(Check check) {
         GrainHost x = new GrainHost();
         Op.steps(x, 0, 0, Op.CALL, 8, 0, Op.CATCH, 0, 0, Op.KEEP, 0, 0);
@@ -68,6 +116,8 @@ public final class FailingTest {
         x.run(1);
         check.due("the reading fails", x.count(8), 0);
         check.due("absent", x.grain(8, 0), 0);
+        check.due("what waits elsewhere goes on", x.ask(2, 0), 0);
+        check.due("as it did", x.grain(1, 3), 1);
         check.due("no more waits there", x.grain(8, 3), 0);
         check.due("the outside call is told", x.ask(1, 1), 101);
         check.due("it did not come", x.count(5), 1);

@@ -3,7 +3,9 @@ public final class ForgetTest {
     public static void main(String[] args) {
         Check check = new Check();
         answers(check);
+        anyOneThatIsPending(check);
         anOldRequestTellsNoNewCall(check);
+        newCallsBeginAnew(check);
         check.finish();
     }
 
@@ -20,6 +22,32 @@ public final class ForgetTest {
         check.due("count(7)", x.count(7), 0);
         check.due("ask", x.ask(0, 0), 1L << 40);
         check.due("none then", x.forget(), 0);
+    }
+
+    private static void anyOneThatIsPending(Check check) {
+        GrainHost x = new GrainHost();
+        x.step(0, 0, Op.YIELD, 0, 0);
+        x.call(0, 0, 0);
+        x.call(8, 0, 0);
+        x.run(4);
+        check.due("the second is done", x.ask(1, 0), 1);
+        check.refused(x, "forget while the first is pending", () -> x.forget(), -3);
+    }
+
+    private static void newCallsBeginAnew(Check check) {
+        GrainHost x = new GrainHost();
+        x.step(0, 0, Op.SET, 5, 0);
+        x.call(0, 0, 0);
+        x.tick(3);
+        x.run(40);
+        x.forget();
+        x.limits(3, 0);
+        x.call(0, 0, 0);
+        check.due("no result yet", x.ask(0, 1), 0);
+        x.tick(2);
+        check.due("its ticks are counted from its own beginning", x.ask(0, 0), 0);
+        x.tick(1);
+        check.due("late then", x.ask(0, 1), 103);
     }
 
     private static void anOldRequestTellsNoNewCall(Check check) {

@@ -5,6 +5,7 @@ public final class RestartTest {
         everythingStops(check);
         whatStays(check);
         goesOnAfterwards(check);
+        theFirstIsPendingToo(check);
         check.finish();
     }
 
@@ -71,6 +72,15 @@ public final class RestartTest {
         check.due("kept", x.grain(0, 1), 7);
         check.due("numbers go on", x.ask(4, 2), made);
         check.due("steps", x.method(0, 0, false, false), 4);
+    }
+
+    private static void theFirstIsPendingToo(Check check) {
+        GrainHost x = new GrainHost();
+        x.call(0, 0, 0);
+        check.due("restart()", x.restart(), 1);
+        check.due("failed", x.ask(0, 0), 2);
+        check.due("code", x.ask(0, 1), 104);
+        check.due("the grain does not come", x.run(40), 0);
     }
 
     private static void goesOnAfterwards(Check check) {

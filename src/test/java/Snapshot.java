@@ -5,7 +5,7 @@ final class Snapshot {
     private Snapshot() {
     }
 
-    static long[] of(GrainHost x) {
+    static long[] of(Face x) {
         long[] row = new long[ROOM];
         int at = 0;
         for (int g = 0; g < 32; g++) {

@@ -27,6 +27,7 @@ public final class StepsDoneTest {
         check.due("ADD", done(9, Op.ADD, 5, 0, Op.ADD, -7, 0).ask(0, 1), -2);
         check.due("ADD wraps", done(0, Op.SET, Integer.MAX_VALUE, 0, Op.ADD, 1, 0).ask(0, 1), Integer.MIN_VALUE);
         check.due("TAKE", done(9, Op.ADD, 5, 0, Op.TAKE, 0, 0).ask(0, 1), 14);
+        check.due("TAKE without R", done(9, Op.ADD, 5, 0, Op.LET, 0, 0, Op.TAKE, 0, 0).ask(0, 1), 14);
         check.due("TAKE wraps", done(Integer.MIN_VALUE, Op.ADD, -1, 0, Op.TAKE, 0, 0).ask(0, 1), Integer.MAX_VALUE);
         check.due("SET", done(9, Op.ADD, 5, 0, Op.SET, -3, 0).ask(0, 1), -3);
         check.due("CATCH alone", done(9, Op.ADD, 5, 0, Op.CATCH, 0, 0).ask(0, 1), 5);
@@ -35,6 +36,16 @@ public final class StepsDoneTest {
     private static void ownInt(Check check) {
         check.due("KEEP at first", done(9, Op.ADD, 5, 0, Op.KEEP, 0, 0).ask(0, 1), 5);
         check.due("LET, KEEP", done(9, Op.ADD, 5, 0, Op.LET, 0, 0, Op.SET, 100, 0, Op.KEEP, 0, 0).ask(0, 1), 105);
+        int[] skipping = {Op.SET, -1, 0, Op.LET, 0, 0, Op.SET, 50, 0, Op.SKIP, 1, 0, Op.FAIL, 1, 0, Op.KEEP, 0, 0};
+        check.due("SKIP leaves it", done(9, skipping).ask(0, 1), 49);
+        int[] leaving = {Op.SET, -1, 0, Op.LET, 0, 0, Op.LEAVE, 0, 0, Op.ADD, 50, 0};
+        check.due("LEAVE skips nothing", done(9, leaving).ask(0, 1), 49);
+        int[] reminding = {Op.REMIND, 3, 0, Op.YIELD, 0, 0, Op.YIELD, 0, 0};
+        GrainHost reminded = new GrainHost();
+        Op.steps(reminded, 0, 0, reminding);
+        reminded.call(0, 0, 0);
+        reminded.run(2);
+        check.due("REMIND does not make it leave", reminded.grain(0, 0), 2);
         check.due("KEEP wraps", done(9, Op.SET, Integer.MAX_VALUE, 0, Op.LET, 0, 0, Op.KEEP, 0, 0).ask(0, 1), -2);
         GrainHost x = done(0, Op.SET, 5, 0, Op.LET, 0, 0);
         x.method(0, 0, false, false);

@@ -9,6 +9,7 @@ public final class TickTest {
         noneInACrowd(check);
         lateAwaits(check);
         lateIsCaught(check);
+        lateTellsNothingLater(check);
         lateByNumbers(check);
         lateOutside(check);
         idleGrains(check);
@@ -45,6 +46,9 @@ public final class TickTest {
         check.due("method", x.request(0, 3), 3);
         check.due("grain", x.request(0, 2), 4);
         check.due("arg", x.request(0, 4), 0);
+        check.due("chain", x.request(0, 9), 1);
+        check.due("one without a timer has none", x.grain(5, 4), 0);
+        check.due("nor a reminder", x.grain(5, 8), 0);
         x.run(1);
         check.due("done", x.grain(4, 1), 8);
         x.tick(20);
@@ -152,6 +156,38 @@ public final class TickTest {
         x.run(3);
         check.due("it goes on with that alone", x.grain(0, 1), -103);
         check.due("all are over", x.count(2), 0);
+    }
+
+    /** The called one ends while its caller, whose call was late, is ready or awaits another. */
+    private static void lateTellsNothingLater(Check check) {
+        GrainHost x = new GrainHost();
+        Op.steps(x, 0, 0, Op.CALL, 8, 0, Op.CATCH, 0, 0, Op.KEEP, 0, 0, Op.CALL, 16, 0, Op.KEEP, 0, 0);
+        Op.steps(x, 1, 0, Op.SET, 5, 0);
+        Op.steps(x, 2, 0, Op.SET, 1000, 0, Op.YIELD, 0, 0);
+        x.limits(1, 0);
+        x.call(0, 0, 0);
+        x.run(3);
+        x.tick(1);
+        check.due("the called one is first", x.line(0), 1);
+        check.due("its caller is behind", x.line(1), 0);
+        x.run(1);
+        check.due("the called one is over", x.count(2), 1);
+        check.due("its caller is in line once", x.count(6), 1);
+        check.due("with what was late", x.request(0, 5), -103);
+        x.restart();
+        x.call(0, 0, 0);
+        x.run(2);
+        x.tick(1);
+        x.call(8, 1, 0);
+        x.limits(0, 0);
+        check.due("the caller is behind the grain that comes", x.line(1), 2);
+        x.run(2);
+        check.due("it awaits another one", x.request(0, 7), 5);
+        x.run(1);
+        check.due("the first called one is over", x.request(1, 0), 4);
+        check.due("that tells nothing", x.request(0, 1), 2);
+        x.run(40);
+        check.due("the other one's result is taken", x.grain(0, 1), 897);
     }
 
     private static void lateByNumbers(Check check) {
