@@ -11,7 +11,7 @@ public final class RoomTest {
         GrainHost x = new GrainHost();
         long made = allocated() - before;
         check.due("a new object is small: " + made, made < BYTES_OF_ONE, true);
-        check.due("calls make no objects", bytesOf(x) < 1_000, true);
+        check.due("calls make no objects", bytesOf(x) < 8_000, true);
         check.finish();
     }
 
