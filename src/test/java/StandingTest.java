@@ -20,7 +20,9 @@ public final class StandingTest {
         test.restartLeavesWhatEnded();
         test.restartLeavesFlagsAndSteps();
         test.restartAtTheEdgeOfAReminder();
+        test.restartWhileOneAwaits();
         test.forgetLeavesWhatStands();
+        test.whatWasToldEndsNoCall();
         test.check.finish();
     }
 
@@ -309,5 +311,45 @@ public final class StandingTest {
         x.run(2);
         check.due("and is done", x.grain(0, 1), 3);
         check.due("nothing to ask", x.ask(0, 0), 1L << 40);
+    }
+
+    /** What is made behind a restart is new in all that can be asked of it. */
+    private void restartWhileOneAwaits() {
+        GrainHost x = new GrainHost();
+        Op.steps(x, 0, 0, Op.SET, 5, 0, Op.LET, 0, 0, Op.CALL, 8, 1);
+        Op.steps(x, 1, 1, Op.CALL, 16, 0);
+        x.call(0, 0, 3);
+        x.run(4);
+        x.tick(2);
+        check.due("three stand", x.restart(), 3);
+        for (int k = 0; k < 3; k++) {
+            x.call(24 + k, 2, 9);
+            int[] due = {3 + k, 0, 24 + k, 2, 9, 0, 0, -1, 0, 1};
+            for (int what = 0; what < 10; what++) {
+                check.due("request(" + k + ", " + what + ")", x.request(k, what), due[what]);
+            }
+        }
+    }
+
+    /** Calls are forgotten and made anew, while what others told comes to its end before them. */
+    private void whatWasToldEndsNoCall() {
+        GrainHost x = new GrainHost();
+        Op.steps(x, 0, 0, Op.TELL, 8, 0, Op.TELL, 9, 0, Op.YIELD, 0, 0, Op.YIELD, 0, 0, Op.YIELD, 0, 0, Op.SET, 5, 0);
+        Op.steps(x, 1, 0, Op.FAIL, 7, 0);
+        for (int round = 0; round < 12; round++) {
+            for (int c = 0; c <= round; c++) {
+                x.call(c % 8, 0, 0);
+            }
+            for (int turn = 0; turn < 200 && x.count(NOT_OVER) > 0; turn++) {
+                x.run(1);
+                for (int c = 0; c <= round; c++) {
+                    check.due("never failed", x.ask(c, 0) == 2, false);
+                }
+            }
+            for (int c = 0; c <= round; c++) {
+                check.due("its own result", x.ask(c, 1), 5);
+            }
+            check.due("forgotten", x.forget(), round + 1);
+        }
     }
 }
